@@ -2,14 +2,16 @@ import java.util.Random;
 
 /** Long runs of calls, the same on the class and on the plain model; the seeds are fixed, so each run is always the same. */
 public final class ModelTest {
-    private static final int RUNS = 1500;
-    private static final int CALLS = 400;
+    private static final int RUNS = 4000;
+    /** An object is used for at most 512 calls; the dearest step makes some 110, and the last look six. */
+    private static final int CALLS = 512, DEAREST_STEP = 120;
 
     private final Due due;
     private final int run;
     private final Random random;
     private final AwakeTurns real = new AwakeTurns();
     private final PlainModel plain = new PlainModel();
+    private int asked = 0;
 
     private ModelTest(Due due, int run) {
         this.due = due;
@@ -26,11 +28,11 @@ public final class ModelTest {
     }
 
     private void go() {
-        for (int k = 0; k < CALLS && !due.hasWrong(); k++) {
-            if (k % 90 == 10) {
+        for (int k = 0; asked < CALLS - DEAREST_STEP && !due.hasWrong(); k++) {
+            if (k % 50 == 10) {
                 takeShip();
             }
-            if (k % 90 == 11 && random.nextInt(4) != 0) {
+            if (k % 50 == 11 && random.nextInt(4) != 0) {
                 fillTurns();
             }
             call();
@@ -43,6 +45,7 @@ public final class ModelTest {
     }
 
     private void same(String call, long got, long want) {
+        asked++;
         due.is("run " + run + ": " + call, got, want);
     }
 
@@ -230,7 +233,11 @@ public final class ModelTest {
         int s = sleeper();
         switch (random.nextInt(10)) {
             case 0: same("ship(" + k + ", " + lane + ", " + i + ", " + n + ")", real.ship(k, lane, i, n), plain.ship(k, lane, i, n)); break;
-            case 1: same("judge(" + k + ", " + lane + ", " + i + ", " + n + ")", real.judge(k, lane, i, n), plain.judge(k, lane, i, n)); break;
+            case 1: {
+                String call = "judge(" + k + ", " + lane + ", " + i + ", " + n + ")";
+                same(call, real.judge(k, lane, i, n), plain.judge(k, lane, i, n));
+                break;
+            }
             case 2: {
                 int length = near(60);
                 same("sheet(" + k + ", " + lane + ", " + length + ")", real.sheet(k, lane, length), plain.sheet(k, lane, length));

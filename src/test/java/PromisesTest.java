@@ -54,41 +54,6 @@ public final class PromisesTest {
         due.is(call, got, want);
     }
 
-    /** Puts a text on a sheet of 60 cells of a lane, from a place on. */
-    private static void write(AwakeTurns x, int k, int lane, int i, String text) {
-        is("sheet", x.sheet(k, lane, 60), 1);
-        for (int c = 0; c < text.length(); c++) {
-            is("put", x.put(k, i + c, text.charAt(c)), 1);
-        }
-    }
-
-    private static int board(AwakeTurns x, String text) {
-        write(x, 3, 0, 0, text);
-        return x.ship(3, 0, 0, text.length());
-    }
-
-    private static AwakeTurns shipOf(String text) {
-        AwakeTurns x = new AwakeTurns();
-        is("ship of " + text, board(x, text), text.length() / 4);
-        return x;
-    }
-
-    /** The turns, a set for each month from 0 on. */
-    private static void turns(AwakeTurns x, int... sets) {
-        for (int m = 0; m < 12; m++) {
-            for (int s = 0; s < x.many(0); s++) {
-                x.up(s, m, m < sets.length && (sets[m] >> s & 1) == 1);
-            }
-        }
-    }
-
-    private static void rowOf(AwakeTurns x, int k, int lane, int... cells) {
-        is("sheet", x.sheet(k, lane, cells.length), 1);
-        for (int i = 0; i < cells.length; i++) {
-            is("put", x.put(k, i, cells[i]), 1);
-        }
-    }
-
     // 1
 
     private static void newObject() {
@@ -112,27 +77,27 @@ public final class PromisesTest {
     private static void shipTaken() {
         for (int lane = 0; lane < 3; lane++) {
             AwakeTurns x = new AwakeTurns();
-            write(x, lane, lane, 3, "a;s01;f79");
+            Ships.write(x, lane, lane, 3, "a;s01;f79");
             is("2 two sleepers", x.ship(lane, lane, 3, 9), 2);
             is("2 fault", x.fault(), 0);
-            write(x, lane, lane, 35, "a;s01;f79;o11;s11;s11;o55");
+            Ships.write(x, lane, lane, 35, "a;s01;f79;o11;s11;s11;o55");
             is("2 six sleepers, up to the end of the row", x.ship(lane, lane, 35, 25), 6);
             is("2 the last one's kind", x.ofSleeper(5, 0), 2);
         }
-        AwakeTurns x = shipOf("a;s15;s25");
+        AwakeTurns x = Ships.of("a;s15;s25");
         x.up(0, 3, true);
         x.wants(3, 5);
         x.law(1);
         x.note(0, 1);
         x.reading(0, 0, true);
         x.tell(0);
-        is("2 a text not taken changes nothing", board(x, "a;s15;s2"), -108);
+        is("2 a text not taken changes nothing", Ships.board(x, "a;s15;s2"), -108);
         is("2 up stays", x.awake(3), 1);
         is("2 notes stay", x.many(1), 1);
         is("2 readings stay", x.many(2), 1);
         is("2 the law stays", x.many(3), 1);
         is("2 wants stay", x.wants(3, 5), 5);
-        is("2 a new ship", board(x, "a;s15;s25;s35"), 3);
+        is("2 a new ship", Ships.board(x, "a;s15;s25;s35"), 3);
         is("2 nobody is up", x.awake(3), 0);
         is("2 no month wants anything", x.wants(3, 0), 0);
         is("2 no notes", x.many(1), 0);
@@ -143,7 +108,7 @@ public final class PromisesTest {
     }
 
     private static void firstFault(String text, int place) {
-        is("2 first fault of '" + text + "'", board(new AwakeTurns(), text), -100 - place);
+        is("2 first fault of '" + text + "'", Ships.board(new AwakeTurns(), text), -100 - place);
     }
 
     private static void shipFirstFault() {
@@ -169,7 +134,7 @@ public final class PromisesTest {
         firstFault("a;s11;s11;s11;s11;s11;s1", 24);
         firstFault("a;s11;s11;s11;s11;s11;s1x;s11", 24);
         AwakeTurns x = new AwakeTurns();
-        rowOf(x, 0, 1, 97 + 256, 97 - 256);
+        Ships.row(x, 0, 1, 97 + 256, 97 - 256);
         is("2 a short is not cut to a byte", x.ship(0, 1, 0, 1), -100);
         is("2 a code below 0", x.ship(0, 1, 1, 1), -100);
         is("2 a first fault is no fault of the machine", x.fault(), 0);
@@ -177,7 +142,7 @@ public final class PromisesTest {
 
     private static void shipRefused() {
         AwakeTurns x = new AwakeTurns();
-        write(x, 1, 1, 0, "a;s11;s11");
+        Ships.write(x, 1, 1, 0, "a;s11;s11");
         is("2 no such sheet", x.ship(-1, 9, 0, 9), AwakeTurns.UNKNOWN);
         is("2 no such sheet", x.ship(4, 0, 0, 9), AwakeTurns.UNKNOWN);
         is("2 no such lane", x.ship(0, 3, 0, -1), AwakeTurns.OUTSIDE);
@@ -200,7 +165,7 @@ public final class PromisesTest {
     // 3 to 8
 
     private static void ofSleeper() {
-        AwakeTurns x = shipOf("a;s01;f72;o59");
+        AwakeTurns x = Ships.of("a;s01;f72;o59");
         int[][] all = {{0, 0, 1, 1}, {1, 7, 2, 2}, {2, 5, 9, 4}};
         for (int s = 0; s < 3; s++) {
             for (int what = 0; what < 4; what++) {
@@ -215,7 +180,7 @@ public final class PromisesTest {
     }
 
     private static void up() {
-        AwakeTurns x = shipOf("a;s01;f72");
+        AwakeTurns x = Ships.of("a;s01;f72");
         is("4 becomes up", x.up(1, 11, true), 1);
         is("4 was so", x.up(1, 11, true), 0);
         is("4 awake", x.awake(11), 2);
@@ -230,7 +195,7 @@ public final class PromisesTest {
     }
 
     private static void wants() {
-        AwakeTurns x = shipOf("a;s01;f72");
+        AwakeTurns x = Ships.of("a;s01;f72");
         is("5 was", x.wants(0, 7), 0);
         is("5 was", x.wants(0, 2), 7);
         is("5 another month", x.wants(11, 1), 0);
@@ -245,7 +210,7 @@ public final class PromisesTest {
     }
 
     private static void law() {
-        AwakeTurns x = shipOf("a;s01;f72");
+        AwakeTurns x = Ships.of("a;s01;f72");
         is("6 was", x.law(1), 0);
         is("6 was", x.law(1), 1);
         is("6 was", x.law(0), 1);
@@ -257,7 +222,7 @@ public final class PromisesTest {
     }
 
     private static void note() {
-        AwakeTurns x = shipOf("a;s01;f72");
+        AwakeTurns x = Ships.of("a;s01;f72");
         is("7 to itself", x.note(1, 1), AwakeTurns.UNKNOWN);
         is("7 from nobody", x.note(2, 0), AwakeTurns.UNKNOWN);
         is("7 to nobody", x.note(0, 2), AwakeTurns.UNKNOWN);
@@ -272,7 +237,7 @@ public final class PromisesTest {
     }
 
     private static void tear() {
-        AwakeTurns x = shipOf("a;s01;f72;s11");
+        AwakeTurns x = Ships.of("a;s01;f72;s11");
         x.note(0, 1);
         x.note(1, 2);
         x.note(2, 0);
@@ -280,7 +245,7 @@ public final class PromisesTest {
         is("8 outside", x.tear(-1), AwakeTurns.OUTSIDE);
         is("8 outside", x.tear(4), AwakeTurns.OUTSIDE);
         is("8 the last two", x.tear(2), 1);
-        turns(x, 1, 2, 4);
+        Ships.turns(x, 1, 2, 4);
         is("8 the first is left", x.knows(0, 0, 1), 1);
         is("8 the second is torn", x.knows(0, 0, 2), AwakeTurns.NONE);
         is("8 a new number", x.note(1, 2), 1);
@@ -292,8 +257,8 @@ public final class PromisesTest {
     // 9 to 17
 
     private static void awake() {
-        AwakeTurns x = shipOf("a;s01;f72;s11;s11;s11;s11");
-        turns(x, 63, 0, 33);
+        AwakeTurns x = Ships.of("a;s01;f72;s11;s11;s11;s11");
+        Ships.turns(x, 63, 0, 33);
         is("9 all", x.awake(0), 63);
         is("9 none", x.awake(1), 0);
         is("9 two", x.awake(2), 33);
@@ -304,8 +269,8 @@ public final class PromisesTest {
     }
 
     private static void harm() {
-        AwakeTurns x = shipOf("a;s01;f72;o11");
-        turns(x, 7, 7, 0, 7, 0, 0, 7, 7, 7, 0, 0, 7);
+        AwakeTurns x = Ships.of("a;s01;f72;o11");
+        Ships.turns(x, 7, 7, 0, 7, 0, 0, 7, 7, 7, 0, 0, 7);
         int[] times = {1, 1, 1, 2, 2, 2, 3, 3, 3, 3, 3, 4};
         for (int m = 0; m < 12; m++) {
             is("10 sleeper in month " + m, x.harm(0, m), times[m]);
@@ -319,8 +284,8 @@ public final class PromisesTest {
     }
 
     private static void skills() {
-        AwakeTurns x = shipOf("a;s11;f21;o41;s01");
-        turns(x, 3, 4, 6, 9);
+        AwakeTurns x = Ships.of("a;s11;f21;o41;s01");
+        Ships.turns(x, 3, 4, 6, 9);
         is("11 by the text", x.skills(1, 11), 2);
         x.law(1);
         is("11 not yet in that month", x.skills(0, 0), 1);
@@ -340,8 +305,8 @@ public final class PromisesTest {
     }
 
     private static void lacks() {
-        AwakeTurns x = shipOf("a;s11;f21;o41");
-        turns(x, 3, 1, 0, 5);
+        AwakeTurns x = Ships.of("a;s11;f21;o41");
+        Ships.turns(x, 3, 1, 0, 5);
         for (int m = 0; m < 4; m++) {
             x.wants(m, 6);
         }
@@ -361,28 +326,28 @@ public final class PromisesTest {
     }
 
     private static void wrong() {
-        AwakeTurns x = shipOf("a;s11;f22;f42");
+        AwakeTurns x = Ships.of("a;s11;f22;f42");
         for (int what = 0; what < 3; what++) {
             is("13 nothing is wrong", x.wrong(what), AwakeTurns.NONE);
         }
-        turns(x, 7, 0, 0, 6, 0, 1);
+        Ships.turns(x, 7, 0, 0, 6, 0, 1);
         is("13 spent", x.wrong(1), 3);
         is("13 the least number of several", x.wrong(2), 1);
-        turns(x, 7, 0, 0, 4, 0, 1);
+        Ships.turns(x, 7, 0, 0, 4, 0, 1);
         is("13 spent", x.wrong(1), 3);
         is("13 the first, though a lesser one is spent later", x.wrong(2), 2);
         x.wants(4, 1);
         x.wants(11, 1);
         is("13 lack", x.wrong(0), 4);
-        turns(x, 6, 0);
+        Ships.turns(x, 6, 0);
         is("13 as much as one bears", x.wrong(1), AwakeTurns.NONE);
         is("13 as much as one bears", x.wrong(2), AwakeTurns.NONE);
-        turns(x, 2, 0, 0, 0, 0, 0, 0, 0, 0, 0, 0, 2);
+        Ships.turns(x, 2, 0, 0, 0, 0, 0, 0, 0, 0, 0, 0, 2);
         is("13 in the last month", x.wrong(1), 11);
         x.wants(4, 0);
         is("13 in the last month", x.wrong(0), 11);
         x.law(1);
-        turns(x, 3, 0, 0, 0, 0, 0, 0, 0, 0, 0, 0, 2);
+        Ships.turns(x, 3, 0, 0, 0, 0, 0, 0, 0, 0, 0, 0, 2);
         is("13 by the law", x.wrong(0), AwakeTurns.NONE);
         is("13 outside", x.wrong(3), AwakeTurns.OUTSIDE);
         is("13 outside", x.wrong(-1), AwakeTurns.OUTSIDE);
@@ -391,7 +356,7 @@ public final class PromisesTest {
     }
 
     private static void cover() {
-        AwakeTurns x = shipOf("a;s11;f21;o31;s31");
+        AwakeTurns x = Ships.of("a;s11;f21;o31;s31");
         is("14 wants nothing", x.cover(0), 0);
         x.wants(0, 1);
         is("14 the least of several", x.cover(0), 1);
@@ -400,9 +365,9 @@ public final class PromisesTest {
         x.wants(0, 4);
         is("14 not even all", x.cover(0), AwakeTurns.NONE);
         x.law(1);
-        turns(x, 15, 15);
+        Ships.turns(x, 15, 15);
         is("14 by the text alone", x.cover(0), AwakeTurns.NONE);
-        AwakeTurns y = shipOf("a;s11;s21;s41;s31;s51");
+        AwakeTurns y = Ships.of("a;s11;s21;s41;s31;s51");
         y.wants(11, 7);
         is("14 the least pair", y.cover(11), 12);
         is("14 outside", y.cover(12), AwakeTurns.OUTSIDE);
@@ -419,14 +384,14 @@ public final class PromisesTest {
     }
 
     private static void leastUnmet(int month) {
-        AwakeTurns x = shipOf("a;s11;s31");
+        AwakeTurns x = Ships.of("a;s11;s31");
         x.wants(month, 4);
         is("15 none, by month " + month, x.least(-1), AwakeTurns.NONE);
         is("15 none, by month " + month, x.least(5), AwakeTurns.NONE);
     }
 
     private static void least() {
-        AwakeTurns x = shipOf("a;o19;f29;s31");
+        AwakeTurns x = Ships.of("a;o19;f29;s31");
         leastRow(x, 0);
         x.wants(3, 1);
         leastRow(x, 1, 0, 0, 0, 4);
@@ -436,25 +401,25 @@ public final class PromisesTest {
         leastRow(x, 1, 0, 0, 0, 4, 4, 4, 4, 4);
         x.wants(9, 4);
         leastRow(x, AwakeTurns.NONE, -9, -9, -9, -9, -9, -9, -9, -9, -9, -9, -9, -9);
-        AwakeTurns y = shipOf("a;f11;o21;f11;s21");
+        AwakeTurns y = Ships.of("a;f11;o21;f11;s21");
         y.wants(0, 2);
         y.wants(1, 1);
         y.wants(11, 2);
         leastRow(y, 3, 8, 9, 8, 8, 8, 8, 8, 8, 8, 8, 8, 8);
         y.wants(11, 0);
         leastRow(y, 3, 8, 1);
-        AwakeTurns z = shipOf("a;s11;s11");
+        AwakeTurns z = Ships.of("a;s11;s11");
         z.wants(0, 1);
         z.wants(11, 1);
         leastRow(z, 1, 1, 1, 1, 1, 1, 1, 1, 1, 1, 1, 1, 1);
         leastUnmet(0);
         leastUnmet(11);
-        AwakeTurns u = shipOf("a;s11;o11");
+        AwakeTurns u = Ships.of("a;s11;o11");
         u.wants(0, 1);
         leastRow(u, 1, 1);
         u.wants(11, 1);
         leastRow(u, 1, 1, 1, 1, 1, 1, 1, 1, 1, 1, 1, 1, 1);
-        AwakeTurns v = shipOf("a;s11;s21");
+        AwakeTurns v = Ships.of("a;s11;s21");
         v.wants(0, 1);
         v.wants(5, 2);
         leastRow(v, 2, 1, 0, 0, 0, 0, 2);
@@ -465,33 +430,33 @@ public final class PromisesTest {
     }
 
     private static void judge() {
-        AwakeTurns x = shipOf("a;s11;f23;o48");
+        AwakeTurns x = Ships.of("a;s11;f23;o48");
         x.wants(1, 3);
         x.wants(4, 1);
-        rowOf(x, 0, 0, 2, 3, 2, 0, 1, 0, 0);
+        Ships.row(x, 0, 0, 2, 3, 2, 0, 1, 0, 0);
         is("16 the second thaw is one too many", x.judge(0, 0, 0, 7), 4);
         is("16 up to it", x.judge(0, 0, 0, 4), AwakeTurns.NONE);
         is("16 of no month", x.judge(0, 0, 7, 0), AwakeTurns.NONE);
         is("16 from the second cell on", x.judge(0, 0, 1, 2), 1);
-        rowOf(x, 0, 2, 3, 2, 0, 0, 2);
+        Ships.row(x, 0, 2, 3, 2, 0, 0, 2);
         is("16 lacks by law 0", x.judge(0, 2, 0, 5), 1);
         x.law(1);
         is("16 by law 1 one was taught, but is spent", x.judge(0, 2, 0, 5), 4);
         is("16 the turns of the ship stay", x.awake(0), 0);
-        rowOf(x, 1, 1, 1, 2, 0, 0, 0, 0, 0, 0, 0, 0, 0, 0);
+        Ships.row(x, 1, 1, 1, 2, 0, 0, 0, 0, 0, 0, 0, 0, 0, 0);
         is("16 the months' own wants", x.judge(1, 1, 0, 12), 1);
         is("16 fault", x.fault(), 0);
     }
 
     private static void judgeRefused() {
         AwakeTurns x = new AwakeTurns();
-        rowOf(x, 1, 1, 0, 8, -1, 7, 0, 0, 0, 0, 0, 0, 0, 0, 0, 0);
+        Ships.row(x, 1, 1, 0, 8, -1, 7, 0, 0, 0, 0, 0, 0, 0, 0, 0, 0);
         is("16 unknown", x.judge(4, 9, 0, 0), AwakeTurns.UNKNOWN);
         is("16 unknown", x.judge(-1, 0, 0, 0), AwakeTurns.UNKNOWN);
         is("16 lane ahead of state", x.judge(0, 3, 0, 0), AwakeTurns.OUTSIDE);
         is("16 state ahead of null", x.judge(0, 0, 0, 0), AwakeTurns.STATE);
         is("16 state ahead of cast", x.judge(1, 0, 0, 0), AwakeTurns.STATE);
-        board(x, "a;s11;f22;o48");
+        Ships.board(x, "a;s11;f22;o48");
         is("16 cast", x.judge(1, 2, -1, -1), -12);
         is("16 null", x.judge(0, 2, -1, -1), -11);
         is("16 size", x.judge(1, 1, -1, -1), -14);
@@ -518,17 +483,17 @@ public final class PromisesTest {
     }
 
     private static void trades() {
-        AwakeTurns x = shipOf("a;s12;f12;s22;s39");
+        AwakeTurns x = Ships.of("a;s12;f12;s22;s39");
         tradesAre(x, 1, 2, 3, 12, 13, 23);
-        turns(x, 1, 0, 1);
+        Ships.turns(x, 1, 0, 1);
         tradesAre(x, 2, 3, 12, 13, 23);
         x.wants(0, 1);
         tradesAre(x, 3, 12, 13, 23);
-        turns(x, 1, 0, 1, 0, 1);
+        Ships.turns(x, 1, 0, 1, 0, 1);
         tradesAre(x, 3);
         is("17 the turns of the ship stay", x.awake(0), 1);
-        AwakeTurns y = shipOf("a;s19;s29;s09");
-        turns(y, 5, 4);
+        AwakeTurns y = Ships.of("a;s19;s29;s09");
+        Ships.turns(y, 5, 4);
         y.wants(1, 1);
         tradesAre(y, 2);
         y.law(1);
@@ -543,8 +508,8 @@ public final class PromisesTest {
     // 18 to 23
 
     private static void knows() {
-        AwakeTurns x = shipOf("a;s11;s11;s11;s11");
-        turns(x, 3, 0, 6, 0, 8, 12);
+        AwakeTurns x = Ships.of("a;s11;s11;s11;s11");
+        Ships.turns(x, 3, 0, 6, 0, 8, 12);
         is("18 at once, though cold", x.knows(3, 0, 3), 0);
         is("18 by mouth in that month", x.knows(0, 0, 1), 0);
         is("18 handed on", x.knows(0, 0, 2), 2);
@@ -562,27 +527,27 @@ public final class PromisesTest {
     }
 
     private static void knowsByNotes() {
-        AwakeTurns x = shipOf("a;s11;s11;s11;s11");
-        turns(x, 1, 0, 0, 2, 12);
+        AwakeTurns x = Ships.of("a;s11;s11;s11;s11");
+        Ships.turns(x, 1, 0, 0, 2, 12);
         x.note(0, 1);
         x.note(1, 2);
         is("18 a note of long ago", x.knows(0, 0, 1), 3);
         is("18 then by another note", x.knows(0, 0, 2), 4);
         is("18 read first, then told", x.knows(0, 0, 3), 4);
         is("18 who was not up since wrote nothing", x.knows(0, 1, 1), AwakeTurns.NONE);
-        turns(x, 0, 5, 2, 2);
+        Ships.turns(x, 0, 5, 2, 2);
         is("18 no note is read cold", x.knows(1, 0, 2), AwakeTurns.NONE);
         is("18 a note is read the month after", x.knows(2, 0, 1), 2);
-        turns(x, 1, 2, 4);
+        Ships.turns(x, 1, 2, 4);
         is("18 from note to note, one a month", x.knows(0, 0, 2), 2);
-        turns(x, 0, 0, 1, 4, 2);
+        Ships.turns(x, 0, 0, 1, 4, 2);
         is("18 a note goes one way", x.knows(1, 0, 0), AwakeTurns.NONE);
         is("18 the writer must have been up ahead", x.knows(1, 0, 2), AwakeTurns.NONE);
     }
 
     private static void kept() {
-        AwakeTurns x = shipOf("a;s11;s11;s11;s11");
-        turns(x, 3, 0, 6, 0, 8, 8);
+        AwakeTurns x = Ships.of("a;s11;s11;s11;s11");
+        Ships.turns(x, 3, 0, 6, 0, 8, 8);
         is("19 kept", x.kept(0, 0), 8);
         is("19 kept", x.kept(0, 1), 14);
         is("19 kept", x.kept(3, 0), 7);
@@ -595,7 +560,7 @@ public final class PromisesTest {
     }
 
     private static void reading() {
-        AwakeTurns x = shipOf("a;s11;s11");
+        AwakeTurns x = Ships.of("a;s11;s11");
         is("20 unknown ahead of outside", x.reading(2, 12, true), AwakeTurns.UNKNOWN);
         is("20 unknown", x.reading(-1, 0, true), AwakeTurns.UNKNOWN);
         is("20 outside", x.reading(0, 12, true), AwakeTurns.OUTSIDE);
@@ -610,7 +575,7 @@ public final class PromisesTest {
     }
 
     private static void back() {
-        AwakeTurns x = shipOf("a;s11;s11;s11");
+        AwakeTurns x = Ships.of("a;s11;s11;s11");
         x.reading(0, 0, true);
         x.reading(1, 0, true);
         x.reading(2, 0, true);
@@ -627,8 +592,8 @@ public final class PromisesTest {
     }
 
     private static void began() {
-        AwakeTurns x = shipOf("a;s11;s11;s11;s11");
-        turns(x, 3, 0, 6, 0, 8, 12);
+        AwakeTurns x = Ships.of("a;s11;s11;s11;s11");
+        Ships.turns(x, 3, 0, 6, 0, 8, 12);
         is("22 without readings all", x.began(5), 15);
         x.reading(2, 2, true);
         is("22 knew as it ended", x.began(0), 7);
@@ -649,8 +614,8 @@ public final class PromisesTest {
     }
 
     private static void woken() {
-        AwakeTurns x = shipOf("a;s11;s11;s11;s11");
-        turns(x, 1, 1, 6, 6, 8);
+        AwakeTurns x = Ships.of("a;s11;s11;s11;s11");
+        Ships.turns(x, 1, 1, 6, 6, 8);
         is("23 without readings all", x.woken(0, 0, 0), 15);
         x.reading(2, 3, true);
         is("23 as it is, 2 does not know", x.knows(0, 0, 2), AwakeTurns.NONE);
@@ -684,9 +649,9 @@ public final class PromisesTest {
     }
 
     private static void odds() {
-        AwakeTurns x = shipOf("a;s19;s29;s09");
+        AwakeTurns x = Ships.of("a;s19;s29;s09");
         oddsAre(x, 11, 1, 1);
-        turns(x, 5, 4, 7);
+        Ships.turns(x, 5, 4, 7);
         x.wants(2, 1);
         oddsAre(x, 1, 1, 1);
         oddsAre(x, 2, 1, 2);
@@ -698,12 +663,12 @@ public final class PromisesTest {
         x.wants(2, 2);
         oddsAre(x, 2, 1, 8);
         is("24 the turns of the ship stay", x.awake(2), 7);
-        AwakeTurns z = shipOf("a;o11;s19");
-        turns(z, 1, 0, 1);
+        AwakeTurns z = Ships.of("a;o11;s19");
+        Ships.turns(z, 1, 0, 1);
         is("24 one is spent", z.wrong(1), 0);
         oddsAre(z, 11, 1, 1);
-        AwakeTurns y = shipOf("a;s19;s19;s19;s19;s19;s19");
-        turns(y, 63);
+        AwakeTurns y = Ships.of("a;s19;s19;s19;s19;s19;s19");
+        Ships.turns(y, 63);
         y.wants(0, 1);
         oddsAre(y, 11, 63, 64);
         long[] lost = {y.odds(12, 0), y.odds(-1, 0), y.odds(0, 2), y.odds(0, -1), new AwakeTurns().odds(0, 0)};
@@ -770,7 +735,7 @@ public final class PromisesTest {
 
     private static void cell() {
         AwakeTurns x = new AwakeTurns();
-        rowOf(x, 1, 1, 7, -8);
+        Ships.row(x, 1, 1, 7, -8);
         is("28 cell", x.cell(1, 0, 1), 7);
         is("28 cell", x.cell(1, 1, 1), -8);
         cellLost(x, 1, 2, 1, 3);
@@ -795,9 +760,9 @@ public final class PromisesTest {
 
     private static void copy() {
         AwakeTurns x = new AwakeTurns();
-        rowOf(x, 0, 2, 1, 2, 3, 4, 5);
-        rowOf(x, 1, 2, 0, 0, 0);
-        rowOf(x, 2, 1, 0, 0, 0);
+        Ships.row(x, 0, 2, 1, 2, 3, 4, 5);
+        Ships.row(x, 1, 2, 0, 0, 0);
+        Ships.row(x, 2, 1, 0, 0, 0);
         is("29 to another one", x.copy(0, 3, 1, 1, 2), 2);
         cellsAre(x, 1, 2, 0, 4, 5);
         is("29 to the right in itself", x.copy(0, 0, 0, 1, 4), 4);
@@ -837,7 +802,7 @@ public final class PromisesTest {
         int[] gives = {4, 104, 108};
         int[] traces = {marked(1), marked(2, 1), marked(3, 2, 1, 1)};
         for (int kind = 0; kind < 3; kind++) {
-            AwakeTurns x = shipOf(texts[kind]);
+            AwakeTurns x = Ships.of(texts[kind]);
             is("30 tell", x.tell(0), gives[kind]);
             is("30 trace", x.trace(), traces[kind]);
             is("30 unknown", x.tell(2), AwakeTurns.UNKNOWN);
@@ -848,7 +813,7 @@ public final class PromisesTest {
     }
 
     private static void greet() {
-        AwakeTurns x = shipOf("a;o04;s01;f01");
+        AwakeTurns x = Ships.of("a;o04;s01;f01");
         is("31 old", x.greet(0), 60);
         is("31 sleeper", x.greet(1), 1);
         is("31 frail", x.greet(2), 2);
@@ -858,7 +823,7 @@ public final class PromisesTest {
     }
 
     private static void as() {
-        AwakeTurns x = shipOf("a;s04;f01;o01");
+        AwakeTurns x = Ships.of("a;s04;f01;o01");
         for (int s = 0; s < 3; s++) {
             for (int kind = 0; kind < 3; kind++) {
                 is("32 as(" + s + ", " + kind + ")", x.as(s, kind), kind <= s ? 1 : -12);
@@ -872,19 +837,19 @@ public final class PromisesTest {
     }
 
     private static void trace() {
-        AwakeTurns x = shipOf("a;s04;f01;o01");
+        AwakeTurns x = Ships.of("a;s04;f01;o01");
         int want = 0;
         for (int k = 0; k < 40; k++) {
             is("33 tell", x.tell(0), 4);
             want = 31 * want + 1;
             is("33 it wraps", x.trace(), want);
         }
-        board(x, "a;s04;f01");
+        Ships.board(x, "a;s04;f01");
         is("33 a new ship leaves it", x.trace(), want);
     }
 
     private static void fault() {
-        AwakeTurns x = shipOf("a;s04;f01;o01");
+        AwakeTurns x = Ships.of("a;s04;f01;o01");
         x.sheet(0, 0, 1);
         x.lose(1);
         // Each call that names faults: one that comes to none, and one that is refused, tell 0 after a fault.
@@ -936,7 +901,7 @@ public final class PromisesTest {
     }
 
     private static void many() {
-        AwakeTurns x = shipOf("a;s04;f01;o01");
+        AwakeTurns x = Ships.of("a;s04;f01;o01");
         x.note(0, 1);
         x.note(1, 0);
         x.reading(0, 0, true);
@@ -953,8 +918,8 @@ public final class PromisesTest {
     // all calls at the document's greatest sizes
 
     private static void sixSleepers() {
-        AwakeTurns x = shipOf("a;o19;o29;f19;f29;s19;s29");
-        turns(x, 63, 0, 63, 0, 63, 0, 63, 0, 63, 0, 63, 0);
+        AwakeTurns x = Ships.of("a;o19;o29;f19;f29;s19;s29");
+        Ships.turns(x, 63, 0, 63, 0, 63, 0, 63, 0, 63, 0, 63, 0);
         x.law(1);
         is("11 six", x.skills(5, 1), 3);
         is("10 six", x.harm(0, 11), 24);
@@ -972,7 +937,7 @@ public final class PromisesTest {
         is("24 six", x.odds(11, 0), 0);
         is("24 six", x.odds(10, 0), 49);
         is("24 six", x.odds(10, 1), 64);
-        rowOf(x, 0, 0, 63, 63, 63, 63, 63, 63, 63, 63, 63, 63, 63, 63);
+        Ships.row(x, 0, 0, 63, 63, 63, 63, 63, 63, 63, 63, 63, 63, 63, 63);
         is("16 six", x.judge(0, 0, 0, 12), 11);
         for (int k = 0; k < 8; k++) {
             x.note(5, k % 5);
